@@ -474,6 +474,13 @@ public final class PromisesTest {
         lensOf("f2 1;f2-1;", 0, 0);
         lensOf("f2 1;f3-1;", 1, 0);
         lensOf("f30 7;", 7, 2);
+        FibredSpaces drilled = with("f3 1;f5 2;f1 4;");
+        drilled.drills(0, 1);
+        Due.is("P without fibre 1", drilled.lens(0, 0), 13);
+        Due.is("Q without fibre 1", drilled.lens(0, 1), 3);
+        drilled.drills(0, 0);
+        Due.is("P without fibres", drilled.lens(0, 0), 4);
+        Due.is("Q without fibres", drilled.lens(0, 1), 1);
         FibredSpaces x = with("f2 1;f3 1;f5 1;", "o1;", "n1;");
         for (int i = 0; i < 3; i++) {
             Due.is("not defined", x.lens(i, 0), STATE);
