@@ -37,15 +37,6 @@ public final class PromisesTest {
         Due.end();
     }
 
-    private static FibredSpaces with(String... texts) {
-        FibredSpaces x = new FibredSpaces();
-        for (int i = 0; i < texts.length; i++) {
-            Due.type(x, texts[i]);
-            Due.is("tells " + texts[i], x.tells(i) >= 0 ? 1 : 0, 1);
-        }
-        return x;
-    }
-
     /** Promise 1. */
     private static void newObject() {
         FibredSpaces x = new FibredSpaces();
@@ -78,7 +69,7 @@ public final class PromisesTest {
 
     /** Promise 5. */
     private static void mirrors() {
-        FibredSpaces x = with("f2 1;f3 1;f7 1;f1-1;", "n3;f2 1;f2-1;", "o2;f5 1;f5 2;");
+        FibredSpaces x = Scene.with("f2 1;f3 1;f7 1;f1-1;", "n3;f2 1;f2-1;", "o2;f5 1;f5 2;");
         Due.is("mirrors", x.mirrors(0), 0);
         Due.stands("mirrors", x, 0, 0, 0, -2, 2, 1, 3, 2, 7, 6);
         Due.is("a space alike its mirror image", x.mirrors(1), 1);
@@ -101,7 +92,7 @@ public final class PromisesTest {
 
     /** Promise 6. */
     private static void joins() {
-        FibredSpaces x = with("o1;f3 1;f1 4;", "o2;f2 1;f3 2;", "n1;f5 4;f1-7;", "n2;f2 1;f2 1;f2 1;f2 1;");
+        FibredSpaces x = Scene.with("o1;f3 1;f1 4;", "o2;f2 1;f3 2;", "n1;f5 4;f1-7;", "n2;f2 1;f2 1;f2 1;f2 1;");
         Due.is("joins", x.joins(4, 0, 1), 3);
         Due.stands("both of kind 0", x, 4, 0, 3, 4, 2, 1, 3, 1, 3, 2);
         Due.is("kind 0 counts twice", x.joins(4, 0, 2), 2);
@@ -118,7 +109,7 @@ public final class PromisesTest {
         Due.stands("with itself", x, 0, 0, 2, 8, 3, 1, 3, 1);
         Due.is("genus 4", x.joins(0, 0, 0), 4);
         Due.is("genus 8", x.joins(0, 0, 0), FULL);
-        FibredSpaces y = with("f1 99;f1 99;f1 99;f1 99;f1 99;", "f1 99;f1 99;f1 99;f1 99;f1 99;f1 9;", "f1-1;");
+        FibredSpaces y = Scene.with("f1 99;f1 99;f1 99;f1 99;f1 99;", "f1 99;f1 99;f1 99;f1 99;f1 99;f1 9;", "f1-1;");
         Due.is("shift 999", y.joins(3, 0, 1), 0);
         Due.is("shift 1008", y.joins(4, 1, 1), FULL);
         Due.is("shift 998", y.joins(4, 3, 2), 0);
@@ -164,7 +155,7 @@ public final class PromisesTest {
 
     /** Promise 8. */
     private static void drills() {
-        FibredSpaces x = with("n2;f2 1;f3 1;f3 2;f1 8;");
+        FibredSpaces x = Scene.with("n2;f2 1;f3 1;f3 2;f1 8;");
         Due.is("no fibre 3", x.drills(0, 3), BAD);
         Due.is("no fibre -1", x.drills(0, -1), BAD);
         Due.is("no fibre max", x.drills(0, Integer.MAX_VALUE), BAD);
@@ -180,7 +171,7 @@ public final class PromisesTest {
 
     /** Promise 9. */
     private static void turnsOn() {
-        FibredSpaces x = with("f3 1;f5 4;f1-2;", "o1;f7 1;f7 3;", "f1 99;f1 12;", "f2 1;f1 99;f1 99;f1 99;f1 99;");
+        FibredSpaces x = Scene.with("f3 1;f5 4;f1-2;", "o1;f7 1;f7 3;", "f1 99;f1 12;", "f2 1;f1 99;f1 99;f1 99;f1 99;");
         Due.is("m = 1", x.turnsOn(0, 1), BAD);
         Due.is("m = 10", x.turnsOn(0, 10), BAD);
         Due.is("not coprime", x.turnsOn(0, 9), STATE);
@@ -198,7 +189,7 @@ public final class PromisesTest {
 
     /** Promise 10. */
     private static void unwraps() {
-        FibredSpaces x = with("f3 2;f5 2;f1-8;", "f3 2;f5 2;f1-7;", "n2;f1-18;", "f3 1;f1 1;");
+        FibredSpaces x = Scene.with("f3 2;f5 2;f1-8;", "f3 2;f5 2;f1-7;", "n2;f1-18;", "f3 1;f1 1;");
         Due.is("m = 1", x.unwraps(0, 1), BAD);
         Due.is("m = 10", x.unwraps(0, 10), BAD);
         Due.is("not coprime", x.unwraps(0, 9), STATE);
@@ -217,7 +208,7 @@ public final class PromisesTest {
 
     /** Promise 11. */
     private static void unrolls() {
-        FibredSpaces x = with("o1;f3 1;f5 2;f1-7;", "n2;f2 1;f2 1;f2 1;", "o2;f1 99;f1 99;f1 99;f1 99;",
+        FibredSpaces x = Scene.with("o1;f3 1;f5 2;f1-7;", "n2;f2 1;f2 1;f2 1;", "o2;f1 99;f1 99;f1 99;f1 99;",
                 "n3;f1 5;", "n1;", "o1;f1 99;f1 99;f1 99;f1 36;");
         Due.is("d = 1", x.unrolls(0, 1), BAD);
         Due.is("d = 4", x.unrolls(0, 4), BAD);
@@ -240,7 +231,7 @@ public final class PromisesTest {
         Due.is("shift 999", x.unrolls(5, 3), 0);
         Due.stands("shift 999", x, 5, 0, 1, 999);
         Due.is("sphere", new FibredSpaces().unrolls(0, 2), STATE);
-        FibredSpaces y = with("o2;f1 1;", "f2 1;f2 1;f2 1;f2 1;f1 99;f1 99;f1 99;f1 99;");
+        FibredSpaces y = Scene.with("o2;f1 1;", "f2 1;f2 1;f2 1;f2 1;f1 99;f1 99;f1 99;f1 99;");
         Due.is("genus 2, 3 sheets", y.unrolls(0, 3), 0);
         Due.stands("genus 4", y, 0, 0, 4, 3);
         Due.is("STATE before FULL", y.unrolls(1, 3), STATE);
@@ -275,7 +266,7 @@ public final class PromisesTest {
     }
 
     private static void everyActionCounts() {
-        FibredSpaces x = with("o1;f2 1;");
+        FibredSpaces x = Scene.with("o1;f2 1;");
         Due.is("tells", x.count(3), 1);
         x.mirrors(0);
         Due.is("mirrors", x.count(3), 2);
@@ -304,7 +295,7 @@ public final class PromisesTest {
 
     /** Promise 13. */
     private static void space() {
-        FibredSpaces x = with("n4;f2 1;f4 3;f1-8;", "o3;", "f2 1;f2 1;f2 1;f2-1;f1-1;", "f2 1;f3 1;f6 1;", "n2;", "n1;f1 1;");
+        FibredSpaces x = Scene.with("n4;f2 1;f4 3;f1-8;", "o3;", "f2 1;f2 1;f2 1;f2-1;f1-1;", "f2 1;f3 1;f6 1;", "n2;", "n1;f1 1;");
         Due.stands("space", x, 0, 1, 4, -8, 2, 1, 4, 3);
         Due.is("rank", x.space(0, 4), 3);
         Due.is("rank", x.space(1, 4), 7);
@@ -323,7 +314,7 @@ public final class PromisesTest {
 
     /** Promise 14. */
     private static void fibre() {
-        FibredSpaces x = with("f7 3;f2 1;");
+        FibredSpaces x = Scene.with("f7 3;f2 1;");
         Due.is("A", x.fibre(0, 0, 0), 2);
         Due.is("B", x.fibre(0, 0, 1), 1);
         Due.is("A", x.fibre(0, 1, 0), 7);
@@ -344,7 +335,7 @@ public final class PromisesTest {
 
     /** Promise 15. */
     private static void euler() {
-        FibredSpaces x = with("f6 1;f10 3;f1-1;", "f4 1;f4-1;", "n3;f1 9;", "f30 29;f29 28;f28 27;f27 26;f25 24;f23 22;");
+        FibredSpaces x = Scene.with("f6 1;f10 3;f1-1;", "f4 1;f4-1;", "n3;f1 9;", "f30 29;f29 28;f28 27;f27 26;f25 24;f23 22;");
         fraction("-(-1 + 1/6 + 3/10)", x.euler(0, 0), x.euler(0, 1), 8, 15);
         fraction("0", x.euler(1, 0), x.euler(1, 1), 0, 1);
         fraction("-9", x.euler(2, 0), x.euler(2, 1), -9, 1);
@@ -357,7 +348,7 @@ public final class PromisesTest {
 
     /** Promise 16. */
     private static void over() {
-        FibredSpaces x = with("f2 1;f3 1;f7 1;", "o4;", "n4;f2 1;", "n1;f2 1;f2 1;", "f2 1;f4 1;");
+        FibredSpaces x = Scene.with("f2 1;f3 1;f7 1;", "o4;", "n4;f2 1;", "n1;f2 1;f2 1;", "f2 1;f4 1;");
         fraction("2 3 7", x.over(0, 0), x.over(0, 1), -1, 42);
         fraction("genus 4", x.over(1, 0), x.over(1, 1), -6, 1);
         fraction("genus 4 of kind 1", x.over(2, 0), x.over(2, 1), -5, 2);
@@ -370,7 +361,7 @@ public final class PromisesTest {
 
     /** Promise 17. */
     private static void like() {
-        FibredSpaces x = with("f3 1;f5 2;", "f5 2;f3 1;", "f3-1;f5-2;", "f2 1;f2-1;", "n1;f3 1;f5 2;", "o1;f3 1;f5 2;");
+        FibredSpaces x = Scene.with("f3 1;f5 2;", "f5 2;f3 1;", "f3-1;f5-2;", "f2 1;f2-1;", "n1;f3 1;f5 2;", "o1;f3 1;f5 2;");
         Due.is("alike", x.like(0, 1), 1);
         Due.is("itself", x.like(0, 0), 1);
         Due.is("mirror image", x.like(0, 2), 2);
@@ -394,7 +385,7 @@ public final class PromisesTest {
     }
 
     private static void torsions(String text, long order, long... torsion) {
-        FibredSpaces x = with(text);
+        FibredSpaces x = Scene.with(text);
         Due.is("order of " + text, x.torsion(0, -1), order);
         Due.is("size of " + text, x.space(0, 5), torsion.length);
         for (int k = 0; k < torsion.length; k++) {
@@ -427,7 +418,7 @@ public final class PromisesTest {
 
     /** Promise 19. */
     private static void maps() {
-        FibredSpaces x = with("f1 6;", "n2;f2 1;f2 1;", "o4;", "o4;f12 1;f12 1;f12 1;f12 1;f12 1;f12-5;", "f2 1;f3 1;f5-4;");
+        FibredSpaces x = Scene.with("f1 6;", "n2;f2 1;f2 1;", "o4;", "o4;f12 1;f12 1;f12 1;f12 1;f12 1;f12-5;", "f2 1;f3 1;f5-4;");
         long[] ofSix = {2, 3, 2, 1, 6, 1, 2, 3, 2, 1, 6};
         for (int m = 2; m <= 12; m++) {
             Due.is("maps of order 6 with " + m, x.maps(0, m), ofSix[m - 2]);
@@ -444,20 +435,20 @@ public final class PromisesTest {
 
     /** Promise 20. */
     private static void threes() {
-        FibredSpaces x = with("f1 1;", "f1 2;", "f1 3;", "f1 6;", "f2 1;f2 1;f3-2;", "o4;");
+        FibredSpaces x = Scene.with("f1 1;", "f1 2;", "f1 3;", "f1 6;", "f2 1;f2 1;f3-2;", "o4;");
         long[] want = {1, 4, 3, 6, 10, 578136};
         for (int i = 0; i < 6; i++) {
             Due.is("threes " + i, x.threes(i), want[i]);
         }
         Due.is("a sphere times a circle", new FibredSpaces().threes(0), 6);
-        FibredSpaces y = with("n1;", "n2;f2 1;f2 1;", "o1;f1 2;");
+        FibredSpaces y = Scene.with("n1;", "n2;f2 1;f2 1;", "o1;f1 2;");
         Due.is("n1", y.threes(0), 16);
         Due.is("n2", y.threes(1), 126);
         Due.is("o1", y.threes(2), 30);
     }
 
     private static void lensOf(String text, long p, long q) {
-        FibredSpaces x = with(text);
+        FibredSpaces x = Scene.with(text);
         Due.is("P of " + text, x.lens(0, 0), p);
         Due.is("Q of " + text, x.lens(0, 1), q);
     }
@@ -474,14 +465,14 @@ public final class PromisesTest {
         lensOf("f2 1;f2-1;", 0, 0);
         lensOf("f2 1;f3-1;", 1, 0);
         lensOf("f30 7;", 7, 2);
-        FibredSpaces drilled = with("f3 1;f5 2;f1 4;");
+        FibredSpaces drilled = Scene.with("f3 1;f5 2;f1 4;");
         drilled.drills(0, 1);
         Due.is("P without fibre 1", drilled.lens(0, 0), 13);
         Due.is("Q without fibre 1", drilled.lens(0, 1), 3);
         drilled.drills(0, 0);
         Due.is("P without fibres", drilled.lens(0, 0), 4);
         Due.is("Q without fibres", drilled.lens(0, 1), 1);
-        FibredSpaces x = with("f2 1;f3 1;f5 1;", "o1;", "n1;");
+        FibredSpaces x = Scene.with("f2 1;f3 1;f5 1;", "o1;", "n1;");
         for (int i = 0; i < 3; i++) {
             Due.is("not defined", x.lens(i, 0), STATE);
             Due.is("not defined", x.lens(i, 1), STATE);
@@ -511,7 +502,7 @@ public final class PromisesTest {
 
     /** Promises 23 and 24. */
     private static void whichAndForget() {
-        FibredSpaces x = with("f1 2;", "f1 3;", "f1 6;", "f1 5;", "f1 1;", "f1 4;");
+        FibredSpaces x = Scene.with("f1 2;", "f1 3;", "f1 6;", "f1 5;", "f1 1;", "f1 4;");
         Due.is("without observations", x.which(), 63);
         Due.is("nothing to forget", x.forget(), 0);
         x.sees(2, 2);
@@ -533,7 +524,7 @@ public final class PromisesTest {
 
     /** Promise 25. */
     private static void ask() {
-        FibredSpaces x = with("f1 2;", "f1 3;", "f1 6;", "f1 5;", "f1 1;", "f1 4;");
+        FibredSpaces x = Scene.with("f1 2;", "f1 3;", "f1 6;", "f1 5;", "f1 1;", "f1 4;");
         // 6 tells 2 and 4, 3, 6, and 5 and 1 from each other: at most two are the same
         Due.is("ask", x.ask(), 6);
         x.sees(2, 2);
@@ -545,7 +536,7 @@ public final class PromisesTest {
         x.sees(4, 2);
         Due.is("no candidate", x.ask(), NONE);
         Due.is("all alike: the least one", new FibredSpaces().ask(), 2);
-        FibredSpaces y = with("f1 7;", "f1 7;", "f1 11;", "f1 11;", "f1 1;", "f1 1;");
+        FibredSpaces y = Scene.with("f1 7;", "f1 7;", "f1 11;", "f1 11;", "f1 1;", "f1 1;");
         Due.is("2 of 4 by 7 or 11: the least one", y.ask(), 7);
         y.sees(7, 1);
         Due.is("then by 11", y.ask(), 11);
@@ -553,7 +544,7 @@ public final class PromisesTest {
 
     /** Promises 26 and 27. */
     private static void keepAndBack() {
-        FibredSpaces x = with("n2;f2 1;f3 1;", "o3;f5 1;f1-9;");
+        FibredSpaces x = Scene.with("n2;f2 1;f3 1;", "o3;f5 1;f1-9;");
         x.sees(3, 3);
         x.type(';');
         for (int wrong : new int[] {-1, 2, Integer.MIN_VALUE, Integer.MAX_VALUE}) {
@@ -596,7 +587,7 @@ public final class PromisesTest {
 
     /** Promise 28. */
     private static void count() {
-        FibredSpaces x = with("f2 1;f3 1;", "f5 1;");
+        FibredSpaces x = Scene.with("f2 1;f3 1;", "f5 1;");
         x.sees(2, 1);
         x.sees(2, 2);
         Due.type(x, "f1 1");
@@ -610,7 +601,7 @@ public final class PromisesTest {
     }
 
     private static void wrongSpaces() {
-        FibredSpaces x = with("o1;f2 1;");
+        FibredSpaces x = Scene.with("o1;f2 1;");
         for (int i : WRONG) {
             Due.is("tells", x.tells(i), BAD);
             Due.is("mirrors", x.mirrors(i), BAD);
@@ -637,7 +628,7 @@ public final class PromisesTest {
     }
 
     private static void errorsChangeNothing() {
-        FibredSpaces x = with("o2;f2 1;f2 1;f4 1;f4 1;f1 99;f1 99;f1 99;f1 99;");
+        FibredSpaces x = Scene.with("o2;f2 1;f2 1;f4 1;f4 1;f1 99;f1 99;f1 99;f1 99;");
         x.turnsOn(0, 2);
         x.turnsOn(0, 9);
         x.turnsOn(0, 3);

@@ -7,27 +7,38 @@ public final class RandomRunsTest {
         "o1;f1 99;f1 99;f2 1;", "n3;f2 1;f2 1;f2 1;", "f1-99;f1-99;f1-99;", "o2; f 29 28;", "o 3;f1 12;",
         "f2 1;f4 1;f8 3;f16 5;f12 7;f6 1;", "f 9 2", "x", ";", "n0;", "f 2 1; n1;", "f2 1;f2 -99;", "o1;f9-8;f27 5;"};
 
+    /** What an object answers behind its 512th call is free, so no run goes on then. */
+    private static final int MOST_CALLS = 512;
+    private static final int CALLS_OF_A_STEP = 100;
+    private static final int CALLS_OF_ALL = 330;
+
     public static void main(String[] args) {
-        for (int seed = 1; seed <= 400; seed++) {
-            run(seed);
+        for (int seed = 1; seed <= 2400; seed++) {
+            run(seed, seed % 2 == 0 ? MOST_CALLS : MOST_CALLS - CALLS_OF_ALL);
         }
         Due.end();
     }
 
-    private static void run(int seed) {
+    /** A shorter run leaves calls to compare all spaces at its end. */
+    private static void run(int seed, int most) {
         Random random = new Random(seed);
         FibredSpaces x = new FibredSpaces();
         Model m = new Model();
         int calls = 0;
-        while (calls < 512) {
+        while (calls + CALLS_OF_A_STEP <= most) {
             String where = "run " + seed + ", call " + calls;
             calls += act(where, random, x, m);
             calls += ask(where, random, x, m);
-            if (random.nextInt(8) == 0) {
-                compare(where, x, m);
+            if (random.nextInt(4) == 0) {
+                calls += compareSpace(where, pick(random, 0, 5), x, m);
+            }
+            if (random.nextInt(4) == 0) {
+                calls += compareCounts(where, x, m);
             }
         }
-        compare("run " + seed + " at its end", x, m);
+        for (int i = -1; i <= 6 && calls + CALLS_OF_ALL <= MOST_CALLS; i++) {
+            compareSpace("run " + seed + " at its end", i, x, m);
+        }
     }
 
     /** Mostly a number of the range, sometimes one beside it. */
@@ -121,21 +132,27 @@ public final class RandomRunsTest {
         return 10;
     }
 
-    private static void compare(String where, FibredSpaces x, Model m) {
-        for (int i = -1; i <= 6; i++) {
-            for (int what = -1; what <= 7; what++) {
-                Due.is(where + " space " + i + " " + what, x.space(i, what), m.space(i, what));
-            }
-            for (int k = -2; k <= 7; k++) {
-                Due.is(where + " torsion " + i + " " + k, x.torsion(i, k), m.torsion(i, k));
-                Due.is(where + " fibre " + i + " " + k, x.fibre(i, k, 0), m.fibre(i, k, 0));
-                Due.is(where + " fibre " + i + " " + k, x.fibre(i, k, 1), m.fibre(i, k, 1));
-            }
+    private static int compareSpace(String where, int i, FibredSpaces x, Model m) {
+        int calls = 0;
+        for (int what = -1; what <= 7; what++) {
+            Due.is(where + " space " + i + " " + what, x.space(i, what), m.space(i, what));
+            calls++;
         }
+        for (int k = -2; k <= 7; k++) {
+            Due.is(where + " torsion " + i + " " + k, x.torsion(i, k), m.torsion(i, k));
+            Due.is(where + " fibre " + i + " " + k, x.fibre(i, k, 0), m.fibre(i, k, 0));
+            Due.is(where + " fibre " + i + " " + k, x.fibre(i, k, 1), m.fibre(i, k, 1));
+            calls += 3;
+        }
+        return calls;
+    }
+
+    private static int compareCounts(String where, FibredSpaces x, Model m) {
         Due.is(where + " which", x.which(), m.which());
         Due.is(where + " ask", x.ask(), m.ask());
         for (int what = -1; what <= 4; what++) {
             Due.is(where + " count " + what, x.count(what), m.count(what));
         }
+        return 8;
     }
 }

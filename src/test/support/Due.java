@@ -16,6 +16,16 @@ final class Due {
         }
     }
 
+    static void same(String call, String got, String want) {
+        checked++;
+        if (!got.equals(want)) {
+            wrong++;
+            if (wrong <= 50) {
+                System.out.println(call + " left " + got + ", due is " + want);
+            }
+        }
+    }
+
     static void end() {
         System.out.println(checked + " answers, " + wrong + " not as due");
         if (wrong != 0 || checked == 0) {
